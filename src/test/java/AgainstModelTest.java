@@ -20,7 +20,10 @@ public final class AgainstModelTest {
         int from = Integer.getInteger("cascade.first", 0);
         for (int run = from; run < from + RUNS && !Check.isWrong(); run++) {
             AgainstModelTest one = new AgainstModelTest(run);
-            int most = run % 8 == 0 ? 500 : 140;
+            if (run % 3 != 0) {
+                one.open();
+            }
+            int most = run % 8 == 0 ? 440 : 120;
             for (int k = 0; k < most && !Check.isWrong(); k++) {
                 one.step();
             }
@@ -101,9 +104,39 @@ public final class AgainstModelTest {
         return any(wildness) == 0 ? some(0, 99999999) : words;
     }
 
+    /** Many children with texts, in rows and grids, some of them with limits: what single calls come to seldom. */
+    private void open() {
+        int parents = 1 + any(3);
+        int children = 8 + any(12);
+        for (int k = 0; k < children; k++) {
+            int e = any(Math.min(parents, k + 1));
+            int tag = any(3);
+            int classes = any(8);
+            int words = any(3) == 0 ? 0 : words();
+            same("add(" + e + ", " + tag + ", " + classes + ")", () -> house.add(e, tag, classes), () -> model.add(e, tag, classes));
+            int made = k + 1;
+            same("text(" + made + ", " + words + ")", () -> house.text(made, words), () -> model.text(made, words));
+        }
+        for (int k = 0; k < 7; k++) {
+            int r = k;
+            int tag = k < 3 ? k : CascadeHouse.NONE;
+            int has = k < 3 ? 0 : 1 << (k - 3) % 3;
+            same("rule(" + tag + ", " + has + ", 0, 1, 0, false)",
+                () -> house.rule(tag, has, 0, 1, 0, false), () -> model.rule(tag, has, 0, 1, 0, false));
+            int[] properties = k < 3 ? new int[] {5, 6, 7, 9, 14} : new int[] {any(3), 2, 6, 3 + any(2)};
+            int[] greatest = k < 3 ? new int[] {3, 4, 5, 3, 6} : new int[] {40, 30, 4, 9};
+            for (int j = 0; j < properties.length; j++) {
+                int p = properties[j];
+                int number = Model.LEAST[p] + any(greatest[j]);
+                same("declare(" + r + ", " + p + ", " + number + ")", () -> house.declare(r, p, number), () -> model.declare(r, p, number));
+            }
+        }
+        compareAll();
+    }
+
     private void step() {
         int kind = any(40);
-        if (calls.size() < 8 && kind > 25) {
+        if (model.nodes.size() < 4 && kind > 25) {
             kind = any(2);
         }
         int e = element();

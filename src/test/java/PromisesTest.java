@@ -933,6 +933,46 @@ public final class PromisesTest {
         boxDue(x, 3, 79, 10, 6, 2);
         x.declare(1, DISPLAY, NOTHING);
         boxDue(x, 2, 0, 1, 29, 1);
+        leftovers();
+    }
+
+    /** What is left by rounding goes to the first ones that have a GROW, a box, and are not frozen. */
+    private static void leftovers() {
+        CascadeHouse x = new CascadeHouse();
+        plain(x, 0);
+        x.declare(0, DISPLAY, ROW);
+        int[] grow = {0, 9, 2, 3, 2};
+        for (int tag = 1; tag <= 5; tag++) {
+            x.add(0, tag, 0);
+            plain(x, tag);
+            x.declare(tag, GROW, grow[tag - 1]);
+        }
+        x.declare(2, DISPLAY, NOTHING);
+        x.window(13);
+        // 13 by 7: 3.7, 5.6, 3.7 make 3, 5, 3, and 2 are left
+        boxDue(x, 1, 0, 0, 0, 0);
+        boxDue(x, 3, 0, 0, 4, 0);
+        boxDue(x, 4, 4, 0, 6, 0);
+        boxDue(x, 5, 10, 0, 3, 0);
+        x.declare(3, MOST, 3);
+        // the first one is frozen; 10 by 5: 6 and 4
+        boxDue(x, 3, 0, 0, 3, 0);
+        boxDue(x, 4, 3, 0, 6, 0);
+        boxDue(x, 5, 9, 0, 4, 0);
+        x.window(12);
+        // 12 by 7: 3, 5, 3 and 1 left makes the first one 4; then 9 by 5: 5, 3 and 1 left, not for the frozen one
+        boxDue(x, 3, 0, 0, 3, 0);
+        boxDue(x, 4, 3, 0, 6, 0);
+        boxDue(x, 5, 9, 0, 3, 0);
+        x.window(7);
+        boxDue(x, 3, 0, 0, 2, 0);
+        boxDue(x, 4, 2, 0, 3, 0);
+        x.declare(1, WIDTH, 6);
+        // 1 is left, for the first one alone
+        boxDue(x, 3, 6, 0, 1, 0);
+        boxDue(x, 4, 7, 0, 0, 0);
+        x.declare(1, WIDTH, 8);
+        boxDue(x, 3, 8, 0, 0, 0);
     }
 
     private static void grids() {
@@ -963,6 +1003,35 @@ public final class PromisesTest {
         boxDue(x, 3, 4, 1, 4, 30);
         boxDue(x, 4, 8, 1, 3, 40);
         boxDue(x, 5, 0, 48, 4, 50);
+        threeRows();
+    }
+
+    /** A grid of 7 in two tracks within a block that does not begin at the top. */
+    private static void threeRows() {
+        CascadeHouse x = new CascadeHouse();
+        x.window(7);
+        x.text(0, 3);
+        x.add(0, 1, 0);
+        plain(x, 1);
+        x.declare(0, DISPLAY, GRID);
+        x.declare(0, TRACKS, 2);
+        x.declare(0, ABOVE, 2);
+        plain(x, 2);
+        x.declare(1, HEIGHT, 10);
+        for (int k = 0; k < 5; k++) {
+            x.add(1, 2, 0);
+            boxDue(x, 2 + k, k % 2 == 0 ? 0 : 4, 3 + k / 2 * 10, k % 2 == 0 ? 4 : 3, 10);
+        }
+        boxDue(x, 1, 0, 3, 7, 30);
+        x.declare(1, WIDTH, 5);
+        due("another WIDTH that no box shows", x.reached(), 5);
+        x.declare(0, TRACKS, 6);
+        boxDue(x, 2, 0, 3, 2, 10);
+        boxDue(x, 3, 2, 3, 1, 10);
+        boxDue(x, 6, 5, 3, 1, 10);
+        x.window(3);
+        boxDue(x, 4, 2, 3, 1, 10);
+        boxDue(x, 5, 3, 3, 0, 10);
     }
 
     private static void widths() {
@@ -990,6 +1059,8 @@ public final class PromisesTest {
         valueDue(x, 3, COLOUR, 0, NONE);
         x.ask(0, 0);
         valueDue(x, 3, COLOUR, 1, 0);
+        x.ask(0, 1);
+        valueDue(x, 3, COLOUR, 0, NONE);
         x.ask(0, 40);
         x.declare(2, DISPLAY, ROW);
         valueDue(x, 3, COLOUR, 0, NONE);
