@@ -526,8 +526,8 @@ public final class CascadeHouse {
         }
 
         int atMost(int wide) {
-            int most = valueOf(MOST);
-            return most == AUTO ? wide : Math.min(wide, most);
+            int most = MOST < values.length ? values[MOST] : AUTO;
+            return most == AUTO || most > wide ? wide : most;
         }
 
         int heightWithMargins() {
@@ -594,10 +594,6 @@ public final class CascadeHouse {
             this.kind = kind;
             this.number = number;
             this.variable = variable;
-        }
-
-        int neededVariable() {
-            return kind == VARIABLE ? variable : NONE;
         }
 
         /** The number that a VARIABLE makes of the property, or NONE where it is as UNSET. */
@@ -761,6 +757,10 @@ public final class CascadeHouse {
         private final RuleBook book;
         private final ArrayList<Rule> listed = new ArrayList<>();
         private final Rule[] deciding = new Rule[PROPERTY_COUNT];
+        /** For each property the group whose other rules BACK passes over, or NONE. */
+        private final int[] passed = new int[PROPERTY_COUNT];
+        /** The variable of the same element that each variable needs, or NONE. */
+        private final int[] needed = new int[VARIABLE_COUNT];
 
         Cascade(RuleBook book) {
             this.book = book;
@@ -769,9 +769,7 @@ public final class CascadeHouse {
         /** The parent's values, and the widths of all containers above, are found already. */
         void findValues(Element element) {
             book.listFor(element, listed);
-            for (int property = 0; property < deciding.length; property++) {
-                deciding[property] = decidingRule(property);
-            }
+            findDeciding();
             findVariables(element);
             for (int property = 0; property < VARIABLES; property++) {
                 findOne(element, property);
@@ -780,6 +778,7 @@ public final class CascadeHouse {
 
         /** Each round makes right those that need one that is right, so as many rounds as variables are enough. */
         private void findVariables(Element element) {
+            findNeeds();
             for (int round = 0; round < VARIABLE_COUNT; round++) {
                 for (int variable = 0; variable < VARIABLE_COUNT; variable++) {
                     if (isInRing(variable)) {
@@ -791,46 +790,53 @@ public final class CascadeHouse {
             }
         }
 
+        private void findNeeds() {
+            for (int variable = 0; variable < needed.length; variable++) {
+                int property = VARIABLES + variable;
+                Rule rule = property < deciding.length ? deciding[property] : null;
+                Declaration declaration = rule == null ? null : rule.declarationOf(property);
+                boolean isNeedy = declaration != null && declaration.kind == Declaration.VARIABLE;
+                needed[variable] = isNeedy ? declaration.variable : NONE;
+            }
+        }
+
         private boolean isInRing(int variable) {
-            int at = neededBy(variable);
-            for (int step = 0; step < VARIABLE_COUNT && at != NONE; step++) {
+            int at = variable;
+            for (int step = 0; step < VARIABLE_COUNT && at >= 0 && at < needed.length; step++) {
+                at = needed[at];
                 if (at == variable) {
                     return true;
                 }
-                at = neededBy(at);
             }
             return false;
         }
 
-        /** The variable of the same element that a variable needs, or NONE. */
-        private int neededBy(int variable) {
-            int property = VARIABLES + variable;
-            Declaration declaration = declarationBy(property);
-            return declaration == null ? NONE : declaration.neededVariable();
-        }
-
-        private Declaration declarationBy(int property) {
-            Rule rule = property >= 0 && property < deciding.length ? deciding[property] : null;
-            return rule == null ? null : rule.declarationOf(property);
-        }
-
         /**
-         * The rule of the strongest declaration, or of that to which BACK goes; null without one. All rules of one
-         * origin, layer and importance stand together, so BACK passes over those of the group that said it.
+         * Finds the rule of each property's strongest declaration, or of that to which BACK goes; null without one.
+         * All rules of one origin, layer and importance stand together, so BACK passes over the rest of its group.
          */
-        private Rule decidingRule(int property) {
-            int passed = NONE;
+        private void findDeciding() {
+            for (int property = 0; property < deciding.length && property < passed.length; property++) {
+                deciding[property] = null;
+                passed[property] = NONE;
+            }
             for (int k = 0; k < listed.size(); k++) {
-                Rule rule = listed.get(k);
-                Declaration declaration = rule.declarationOf(property);
-                if (declaration != null && rule.group != passed) {
-                    if (declaration.kind != BACK) {
-                        return rule;
+                letDecide(listed.get(k));
+            }
+        }
+
+        /** Lets a rule, weaker than all that were let, decide where none does yet. */
+        private void letDecide(Rule rule) {
+            for (int property = 0; property < deciding.length && property < passed.length; property++) {
+                Declaration declaration = deciding[property] == null ? rule.declarationOf(property) : null;
+                if (declaration != null && rule.group != passed[property]) {
+                    if (declaration.kind == BACK) {
+                        passed[property] = rule.group;
+                    } else {
+                        deciding[property] = rule;
                     }
-                    passed = rule.group;
                 }
             }
-            return null;
         }
 
         private void findOne(Element element, int property) {
