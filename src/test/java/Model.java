@@ -1,4 +1,5 @@
 import java.util.ArrayList;
+import java.util.Arrays;
 import java.util.HashMap;
 import java.util.List;
 import java.util.Map;
@@ -20,6 +21,10 @@ final class Model {
         boolean container;
         Node parent;
         final List<Node> children = new ArrayList<>();
+        /** What was found of it since the last change. */
+        final Told[] told = new Told[14];
+        Integer width, height;
+        List<Node> boxes;
 
         int place() {
             return parent == null ? 0 : parent.children.indexOf(this);
@@ -46,17 +51,23 @@ final class Model {
     int next = 1;
     int window = 100;
     int reached = 0;
-    /** What was found since the last change. */
-    private final Map<String, Object> memo = new HashMap<>();
+    /** What all nodes showed behind the last change. */
+    private Map<Node, List<Integer>> shown;
 
     Model() {
         nodes.put(0, new Node());
+        shown = snapshot();
     }
 
     // ---- what changes
 
     private Map<Node, List<Integer>> snapshot() {
-        memo.clear();
+        for (Node node : nodes.values()) {
+            Arrays.fill(node.told, null);
+            node.width = null;
+            node.height = null;
+            node.boxes = null;
+        }
         Map<Node, List<Integer>> all = new HashMap<>();
         for (Node node : nodes.values()) {
             List<Integer> row = new ArrayList<>();
@@ -72,12 +83,13 @@ final class Model {
     }
 
     private int change(java.util.function.IntSupplier call) {
-        Map<Node, List<Integer>> before = snapshot();
+        Map<Node, List<Integer>> before = shown;
         int answer = call.getAsInt();
         Map<Node, List<Integer>> after = snapshot();
         List<Node> both = new ArrayList<>(before.keySet());
         after.keySet().stream().filter(node -> !before.containsKey(node)).forEach(both::add);
         reached = (int) both.stream().filter(node -> !Objects.equals(before.get(node), after.get(node))).count();
+        shown = after;
         return answer;
     }
 
@@ -391,13 +403,10 @@ final class Model {
     }
 
     private Told told(Node node, int property) {
-        String key = System.identityHashCode(node) + ":" + property;
-        Told known = (Told) memo.get(key);
-        if (known == null) {
-            known = find(node, property);
-            memo.put(key, known);
+        if (node.told[property] == null) {
+            node.told[property] = find(node, property);
         }
-        return known;
+        return node.told[property];
     }
 
     private Told find(Node node, int property) {
@@ -437,7 +446,10 @@ final class Model {
     }
 
     private List<Node> boxes(Node node) {
-        return node.children.stream().filter(this::hasBox).toList();
+        if (node.boxes == null) {
+            node.boxes = node.children.stream().filter(this::hasBox).toList();
+        }
+        return node.boxes;
     }
 
     private int cap(Node node, int wide) {
@@ -445,13 +457,10 @@ final class Model {
     }
 
     private int width(Node node) {
-        String key = System.identityHashCode(node) + ":width";
-        Integer known = (Integer) memo.get(key);
-        if (known == null) {
-            known = findWidth(node);
-            memo.put(key, known);
+        if (node.width == null) {
+            node.width = findWidth(node);
         }
-        return known;
+        return node.width;
     }
 
     private int findWidth(Node node) {
@@ -543,13 +552,10 @@ final class Model {
     }
 
     private int height(Node node) {
-        String key = System.identityHashCode(node) + ":height";
-        Integer known = (Integer) memo.get(key);
-        if (known == null) {
-            known = of(node, 1) != -2 ? of(node, 1) : inside(node, boxes(node).size());
-            memo.put(key, known);
+        if (node.height == null) {
+            node.height = of(node, 1) != -2 ? of(node, 1) : inside(node, boxes(node).size());
         }
-        return known;
+        return node.height;
     }
 
     /** How high the text and the first children are, with margins, together. */

@@ -19,39 +19,39 @@ public final class RoomTest {
     }
 
     private static void fill(CascadeHouse x) {
-        int calls = 0;
         for (int rule = 0; rule < 16; rule++) {
             x.rule(CascadeHouse.NONE, 0, 0, rule % 2, rule % 3, rule % 5 == 0);
             x.part(rule, CascadeHouse.BELOW, CascadeHouse.NONE, 0, 0);
-            calls += 2;
         }
         for (int element = 1; element < 24; element++) {
             x.add(element / 2, 1, 0);
-            calls++;
         }
-        for (int k = 0; calls < CALLS; k++) {
-            switch (k % 6) {
+        for (int k = 0; k < CALLS - 2 * 16 - 23; k++) {
+            switch (k % 7) {
                 case 0: x.declare(k % 16, k % 15, 1); break;
-                case 1: x.refer(k % 16, k % 7 == 0 ? 14 : 8, k % 4, 1); x.empty(k % 16); calls++; break;
-                case 2: x.remove(23 + k / 6); break;
-                case 3: x.add(k % 11, 1, 0); break;
-                case 4: x.text(k % 11, 12345678); break;
+                case 1: x.refer(k % 16, k % 2 == 0 ? 14 : 8, k % 4, 1); break;
+                case 2: x.empty((k - 1) % 16); break;
+                case 3: x.remove(23 + k / 7); break;
+                case 4: x.add(k % 11, 1, 0); break;
+                case 5: x.text(k % 11, 12345678); break;
                 default: x.valueAnew(0, 0); break;
             }
-            calls++;
         }
     }
 
-    /** Behind the 512th call the answers are free, but no call may fail to end or throw by itself. */
+    /** Behind the 512th call the answers are free, but no call may fail to end or throw anything by itself. */
     private static void longRun() {
         CascadeHouse x = new CascadeHouse();
-        x.rule(0, 0, 0, 1, 0, false);
-        for (int k = 0; k < 5000; k++) {
-            int made = x.add(0, k % 6, k % 256);
-            x.declare(0, k % 15, 1);
-            x.empty(0);
-            Check.due("remove", x.remove(made), 1);
+        for (int k = 0; k < 20_000; k++) {
+            int number = k;
+            Scene.Call[] calls = {
+                y -> y.add(number % 99 == 0 ? number / 4 : 0, number % 6, number % 256), y -> y.rule(0, 0, 0, 1, number % 3, false),
+                y -> y.declare(number % 16, number % 15, 1), y -> y.remove(number / 4 - 9), y -> y.empty(number % 16),
+            };
+            String told = Scene.tell(calls[k % calls.length], x);
+            boolean isAnswer = told.equals("true") || told.equals("false") || told.matches("-?[0-9]+");
+            boolean isOwn = told.equals(Check.BOUNDS) || told.equals(Check.ARGUMENT) || told.equals(Check.STATE);
+            Check.due("call " + k + " answers or refuses: " + told, isAnswer || isOwn, true);
         }
-        Check.due("elements()", x.elements(), 1);
     }
 }
