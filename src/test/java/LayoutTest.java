@@ -27,6 +27,7 @@ public final class LayoutTest {
         oneMoreEach();
         justAsWideAsMost();
         frozenOneByOne();
+        frozenInOneRound();
         frozenAltogether();
         mostAheadOfTheRest();
         rowHeights();
@@ -413,6 +414,24 @@ public final class LayoutTest {
         widthsDue("all are frozen, 1 is left", x, 11, 13, 4, 11);
         x.declare(1, GROW, 0);
         widthsDue("what does not grow takes no part", x, 0, 13, 4, 11);
+    }
+
+    /** All that would be too wide are frozen before the rest is shared anew, be it too wide by 1 more alone. */
+    private static void frozenInOneRound() {
+        int[] grow = {0, 2, 3, 1, 9, 7};
+        CascadeHouse x = house(ROW, 5);
+        x.window(34);
+        for (int k = 1; k <= 5; k++) {
+            x.declare(k, GROW, grow[k]);
+        }
+        // by 22: 3.1, 4.6, 1.5, 13.9 and 10.8; 3 are left
+        widthsDue("none is frozen", x, 4, 5, 2, 13, 10);
+        x.declare(5, MOST, 8);
+        // 26 by 15: 3.5, 5.2, 1.7 and 15.6; 2 are left
+        widthsDue("the last one is", x, 4, 6, 1, 15, 8);
+        x.declare(3, MOST, 1);
+        // 25 by 14: 3.6, 5.4 and 16.1; 1 is left
+        widthsDue("the third one, too, though it would not be later", x, 4, 5, 1, 16, 8);
     }
 
     private static void frozenAltogether() {

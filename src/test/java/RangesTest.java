@@ -21,6 +21,7 @@ public final class RangesTest {
         containers();
         windows();
         rules();
+        numbersOfRules();
         classesOfRules();
         parts();
         asking();
@@ -193,6 +194,32 @@ public final class RangesTest {
                 x.declare(1, SIZE, 20);
                 valueDue("in force", x, 0, SIZE, tag <= 0 ? 20 : 1, tag <= 0 ? 1 : NONE);
             }
+        }
+    }
+
+    private static void numbersOfRules() {
+        CascadeHouse x = new CascadeHouse();
+        x.add(0, 1, 0);
+        x.contain(0, true);
+        for (int r = 0; r < 16; r++) {
+            due("rule", plain(x, r == 0 || r == 15 ? 1 : 2), r);
+        }
+        for (int r : new int[] {0, 15}) {
+            due("part(" + r + ")", x.part(r, CHILD, 0, 0, 0), 2);
+            due("ask(" + r + ")", x.ask(r, 100), NONE);
+            due("weight(" + r + ")", x.weight(r), 2);
+            due("fits(" + r + ")", x.fits(r, 1), true);
+            due("declare(" + r + ")", x.declare(r, COLOUR, 30 + r), 1);
+            valueDue("declared", x, 1, COLOUR, 30 + r, r);
+            due("say(" + r + ")", x.say(r, SIZE, INHERIT), 2);
+            valueDue("said", x, 1, SIZE, 1, NONE);
+            due("refer(" + r + ")", x.refer(r, GROW, 3, 9), 3);
+            valueDue("referred", x, 1, GROW, 9, r);
+            x.window(99);
+            valueDue("asked", x, 1, GROW, 0, NONE);
+            x.window(100);
+            due("empty(" + r + ")", x.empty(r), 3);
+            valueDue("emptied", x, 1, COLOUR, 0, NONE);
         }
     }
 

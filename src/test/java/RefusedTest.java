@@ -4,7 +4,7 @@ import java.util.List;
 /**
  * Each refused call: the exception that the first line that applies names, also where more lines than one apply, and
  * that the call changed nothing: a house that refused it answers all that can be asked as one that was never asked for
- * it, what reached() answers and what the next calls reach included.
+ * it, what reached() answers and what the next calls reach included. So does a house that answered a question.
  */
 public final class RefusedTest {
     private static final int NONE = CascadeHouse.NONE, AUTO = CascadeHouse.AUTO;
@@ -42,6 +42,7 @@ public final class RefusedTest {
             one.ruleCalls();
             one.declarations();
             one.questions();
+            one.answeredQuestions();
         }
         notTwoPartsOfAMargin();
         Check.end();
@@ -107,8 +108,12 @@ public final class RefusedTest {
     }
 
     private void refused(String what, String exception, Scene.Call call) {
+        Check.due(name + ": " + what + " throws", Scene.tell(call, scene.make()), exception);
+        nothingChanged(what, call);
+    }
+
+    private void nothingChanged(String what, Scene.Call call) {
         String whole = name + ": " + what;
-        Check.due(whole + " throws", Scene.tell(call, scene.make()), exception);
         List<String> got = scene.answersBehind(call);
         Check.due(whole + ": as many answers", got.size(), due.size());
         for (int k = 0; k < due.size() && k < got.size(); k++) {
@@ -148,8 +153,9 @@ public final class RefusedTest {
             bounds("remove(" + e + ")", x -> x.remove(e));
             bounds("dress(" + e + ", 0)", x -> x.dress(e, 0));
             bounds("dress(" + e + ", 256)", x -> x.dress(e, 256));
-            bounds("text(" + e + ", 1)", x -> x.text(e, 1));
-            bounds("text(" + e + ", 10)", x -> x.text(e, 10));
+            for (int words : new int[] {0, 1, 10, -1, 100000000}) {
+                bounds("text(" + e + ", " + words + ")", x -> x.text(e, words));
+            }
             bounds("contain(" + e + ", true)", x -> x.contain(e, true));
             bounds("contain(" + e + ", false)", x -> x.contain(e, false));
         }
@@ -311,6 +317,29 @@ public final class RefusedTest {
         bounds("value(" + e + ", " + p + ")", x -> x.value(e, p));
         bounds("valueAnew(" + e + ", " + p + ")", x -> x.valueAnew(e, p));
         bounds("from(" + e + ", " + p + ")", x -> x.from(e, p));
+    }
+
+    /** A question that is answered changes nothing either: reached() goes on telling of the last call that may. */
+    private void answeredQuestions() {
+        for (int e = 0; e <= 4; e++) {
+            int element = e;
+            for (int p = 0; p <= 13; p++) {
+                int property = p;
+                nothingChanged("value", x -> x.value(element, property));
+                nothingChanged("valueAnew", x -> x.valueAnew(element, property));
+                nothingChanged("from", x -> x.from(element, property));
+            }
+            for (int w = 0; w <= 3; w++) {
+                int what = w;
+                nothingChanged("box", x -> x.box(element, what));
+                nothingChanged("boxAnew", x -> x.boxAnew(element, what));
+            }
+            nothingChanged("lines", x -> x.lines(element));
+            nothingChanged("fits", x -> x.fits(0, element));
+        }
+        nothingChanged("weight", x -> x.weight(LONG_RULE));
+        nothingChanged("elements", CascadeHouse::elements);
+        nothingChanged("reached", CascadeHouse::reached);
     }
 
     /** MARGIN needs room for both of its declarations that are not there yet; otherwise it makes none of them. */

@@ -104,6 +104,7 @@ final class Scene {
             int r = rule;
             all.add(new Named("weight(" + r + ")", x -> x.weight(r)));
         }
+        all.add(new Named("reached()", CascadeHouse::reached));
         return all;
     }
 

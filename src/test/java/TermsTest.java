@@ -36,6 +36,7 @@ public final class TermsTest {
         cameAndWent();
         otherBoxes();
         otherValues();
+        noneOrNothing();
         noBoxMoves();
         theLastCall();
         Check.end();
@@ -132,8 +133,11 @@ public final class TermsTest {
         due("it came", x.reached(), 1);
         x.text(2, 99);
         x.contain(2, true);
-        x.add(2, 1, 0);
-        x.add(2, 1, 0);
+        x.add(2, 5, 0);
+        x.add(2, 5, 0);
+        x.text(3, 9);
+        x.text(4, 9);
+        x.declare(plain(x, 5), MARGIN, 3);
         x.remove(2);
         for (int made = 5; made <= 7; made++) {
             due("another one", x.add(0, 1, 0), made);
@@ -147,6 +151,8 @@ public final class TermsTest {
         }
         x.add(0, 1, 0);
         x.add(8, 1, 0);
+        x.text(9, 9);
+        due("as high as its only child", x.box(8, 3), 1);
         due("a child of it", x.remove(8), 2);
         due("the root is as empty as at first", x.box(0, 3), 0);
         due("without children", x.elements(), 1);
@@ -761,6 +767,21 @@ public final class TermsTest {
             x.empty(0);
             due("the same without it", x.reached(), 0);
         }
+    }
+
+    /** A box of no width and no height is another one than none. */
+    private static void noneOrNothing() {
+        CascadeHouse x = new CascadeHouse();
+        x.window(0);
+        x.add(0, 1, 0);
+        x.add(1, 2, 0);
+        plain(x, 1);
+        x.declare(0, DISPLAY, NOTHING);
+        due("no box", x.box(2, 2), NONE);
+        due("another value, and no box below it", x.reached(), 2);
+        x.empty(0);
+        due("a box of no width", x.box(2, 2), 0);
+        due("another value, and a box again below it", x.reached(), 2);
     }
 
     /** What has no box has no other one by what is around it, wherever that moves. */
