@@ -1,89 +1,325 @@
+import com.sun.source.tree.AssertTree;
+import com.sun.source.tree.CatchTree;
+import com.sun.source.tree.ClassTree;
+import com.sun.source.tree.CompilationUnitTree;
+import com.sun.source.tree.DoWhileLoopTree;
+import com.sun.source.tree.EnhancedForLoopTree;
+import com.sun.source.tree.ExpressionTree;
+import com.sun.source.tree.ForLoopTree;
+import com.sun.source.tree.ImportTree;
+import com.sun.source.tree.InstanceOfTree;
+import com.sun.source.tree.LambdaExpressionTree;
+import com.sun.source.tree.LiteralTree;
+import com.sun.source.tree.MemberReferenceTree;
+import com.sun.source.tree.MethodInvocationTree;
+import com.sun.source.tree.MethodTree;
+import com.sun.source.tree.NewClassTree;
+import com.sun.source.tree.SynchronizedTree;
+import com.sun.source.tree.ThrowTree;
+import com.sun.source.tree.Tree;
+import com.sun.source.tree.TryTree;
+import com.sun.source.tree.TypeCastTree;
+import com.sun.source.tree.VariableTree;
+import com.sun.source.tree.WhileLoopTree;
+import com.sun.source.util.JavacTask;
+import com.sun.source.util.SourcePositions;
+import com.sun.source.util.TreePathScanner;
+import com.sun.source.util.Trees;
 import java.io.IOException;
-import java.lang.reflect.Constructor;
-import java.lang.reflect.Field;
-import java.lang.reflect.Method;
-import java.lang.reflect.Modifier;
-import java.nio.file.Files;
 import java.nio.file.Path;
+import java.util.ArrayList;
+import java.util.LinkedHashMap;
+import java.util.LinkedHashSet;
 import java.util.List;
+import java.util.Map;
+import java.util.Set;
+import javax.lang.model.element.Element;
+import javax.lang.model.element.ExecutableElement;
+import javax.lang.model.element.Modifier;
+import javax.lang.model.element.TypeElement;
+import javax.tools.JavaCompiler;
+import javax.tools.StandardJavaFileManager;
+import javax.tools.ToolProvider;
 
-/** What ../shared/LANGUAGE.md says of members, sizes and words, as far as it can be read off the class and its file. */
-public final class LanguageTest {
-    /** Ruled out there, or let in under conditions that the class does without. */
-    private static final String[] NOT_USED = {
-        "->", "::", "Exact(", "catch", "finally", "synchronized", "assert", "instanceof", "static {", "@Override",
-        "String.", "System.", "Random", "hashCode", "equals(", "toString", "\" +", "+ \"", "\t",
-    };
-    private static final String[] LIBRARY = {"import java.util.ArrayList;", "import java.util.List;"};
-    private static final int MOST_CLASSES = 12, MOST_FIELDS = 20, MOST_PARAMETERS = 7, MOST_LINES = 60;
+/** What ../shared/LANGUAGE.md says, as far as the compiler's trees of the class tell it; the numbers are its rules. */
+public final class LanguageTest extends TreePathScanner<Void, Void> {
+    private static final Set<String> LIBRARY = Set.of("ArrayList.size", "ArrayList.get", "ArrayList.add", "ArrayList.remove",
+        "ArrayList.clear", "ArrayList.isEmpty", "ArrayList.<init>", "Math.max", "Math.min", "Integer.bitCount",
+        "IllegalStateException.<init>", "IllegalArgumentException.<init>", "IndexOutOfBoundsException.<init>", "Object.<init>");
+    private static final Set<String> TYPES = Set.of("int", "boolean", "int[]", "boolean[]", "java.lang.String");
+    private static final int MOST_CLASSES = 12, MOST_FIELDS = 20, MOST_PARAMETERS = 7, MOST_LINES = 60, DEEPEST = 8;
+
+    private final Trees trees;
+    private final SourcePositions places;
+    private final CompilationUnitTree unit;
+    private final Set<String> faceNames = new LinkedHashSet<>();
+    private final Map<Element, Set<Element>> calls = new LinkedHashMap<>();
+    private int classes = 0;
+
+    private LanguageTest(Trees trees, CompilationUnitTree unit) {
+        this.trees = trees;
+        this.unit = unit;
+        places = trees.getSourcePositions();
+        for (String line : FaceTest.FACE) {
+            faceNames.add(line.substring(line.indexOf(' ') + 1, line.indexOf('(')));
+        }
+    }
 
     public static void main(String[] args) throws IOException {
-        Class<?> house = CascadeHouse.class;
-        Class<?>[] inside = house.getDeclaredClasses();
-        Check.due("at most twelve classes", inside.length + 1 <= MOST_CLASSES, true);
-        members(house, true);
-        for (Class<?> one : inside) {
-            int is = one.getModifiers();
-            Check.due(one + " is not public, and static", !Modifier.isPublic(is) && !Modifier.isProtected(is) && Modifier.isStatic(is), true);
-            members(one, false);
+        JavaCompiler compiler = ToolProvider.getSystemJavaCompiler();
+        Path source = Path.of(System.getProperty("cascade.source", "src/main/java/CascadeHouse.java"));
+        try (StandardJavaFileManager files = compiler.getStandardFileManager(null, null, null)) {
+            JavacTask task = (JavacTask) compiler.getTask(null, files, null, List.of("-proc:none"), null, files.getJavaFileObjects(source));
+            CompilationUnitTree unit = task.parse().iterator().next();
+            task.analyze();
+            LanguageTest test = new LanguageTest(Trees.instance(task), unit);
+            test.scan(unit, null);
+            test.depths();
         }
-        List<String> lines = Files.readAllLines(Path.of(System.getProperty("cascade.source", "src/main/java/CascadeHouse.java")));
-        words(lines);
-        lengths(lines);
         Check.end();
     }
 
-    private static void members(Class<?> one, boolean isOuter) {
+    private void is(boolean holds, int rule, Tree tree, String what) {
+        long line = unit.getLineMap().getLineNumber(places.getStartPosition(unit, tree));
+        Check.due("rule " + rule + ", line " + line + ", " + what, holds, true);
+    }
+
+    private Element here() {
+        return trees.getElement(getCurrentPath());
+    }
+
+    // ---- the file and its classes
+
+    @Override
+    public Void visitCompilationUnit(CompilationUnitTree tree, Void none) {
+        is(tree.getPackage() == null, 1, tree, "no package line");
+        is(tree.getTypeDecls().size() == 1, 1, tree, "one class");
+        return super.visitCompilationUnit(tree, none);
+    }
+
+    @Override
+    public Void visitImport(ImportTree tree, Void none) {
+        String name = tree.getQualifiedIdentifier().toString();
+        is(!tree.isStatic() && (name.equals("java.util.ArrayList") || name.equals("java.util.List")), 4, tree, name);
+        return null;
+    }
+
+    @Override
+    public Void visitClass(ClassTree tree, Void none) {
+        Set<Modifier> is = here().getModifiers();
+        boolean isHouse = classes++ == 0;
+        is(classes <= MOST_CLASSES, 11, tree, "at most twelve classes");
+        is(tree.getKind() == Tree.Kind.CLASS, 2, tree, "a class");
+        is(is.contains(Modifier.PUBLIC) == isHouse && !is.contains(Modifier.PROTECTED), 1, tree, "public, or inside");
+        is(isHouse ? is.contains(Modifier.FINAL) : is.contains(Modifier.STATIC), 1, tree, "final, or static");
         int fields = 0;
-        for (Field field : one.getDeclaredFields()) {
-            int is = field.getModifiers();
-            fields += Modifier.isStatic(is) ? 0 : 1;
-            Check.due(field + " is final if static", !Modifier.isStatic(is) || Modifier.isFinal(is), true);
-            boolean isConstant = Modifier.isPublic(is) && Modifier.isStatic(is);
-            Check.due(field + " is private if not a constant", !isOuter || isConstant || Modifier.isPrivate(is), true);
-        }
-        Check.due(one + " has at most twenty fields", fields <= MOST_FIELDS, true);
-        for (Method method : one.getDeclaredMethods()) {
-            boolean isFace = isOuter && Modifier.isPublic(method.getModifiers());
-            Check.due(method + " takes at most seven", method.getParameterCount() <= MOST_PARAMETERS, true);
-            Check.due(method + " is private or of the face", !isOuter || isFace || Modifier.isPrivate(method.getModifiers()), true);
-            for (String line : FaceTest.FACE) {
-                Check.due(method + " bears a public name", !isFace && line.contains(" " + method.getName() + "("), false);
+        for (Tree member : tree.getMembers()) {
+            is(member.getKind() != Tree.Kind.BLOCK, 5, member, "no initialiser block");
+            if (member instanceof VariableTree field && !field.getModifiers().getFlags().contains(Modifier.STATIC)) {
+                fields++;
             }
         }
-        for (Constructor<?> made : one.getDeclaredConstructors()) {
-            Check.due(made + " takes at most seven", made.getParameterCount() <= MOST_PARAMETERS, true);
+        is(fields <= MOST_FIELDS, 11, tree, "at most twenty fields");
+        return super.visitClass(tree, none);
+    }
+
+    @Override
+    public Void visitVariable(VariableTree tree, Void none) {
+        Element variable = here();
+        Set<Modifier> is = variable.getModifiers();
+        String type = variable.asType().toString();
+        is(TYPES.contains(type) || type.startsWith("CascadeHouse.") || type.startsWith("java.util.ArrayList<CascadeHouse."), 3, tree, type);
+        if (variable.getEnclosingElement() instanceof TypeElement owner) {
+            boolean isConstant = is.contains(Modifier.STATIC) && is.contains(Modifier.FINAL);
+            is(isConstant || !is.contains(Modifier.STATIC), 5, tree, "static fields are final");
+            boolean isHouse = owner.getSimpleName().contentEquals("CascadeHouse");
+            is(!isHouse || is.contains(Modifier.PRIVATE) || isConstant && is.contains(Modifier.PUBLIC), 1, tree, "private, or of the face");
+        }
+        return super.visitVariable(tree, none);
+    }
+
+    // ---- methods
+
+    @Override
+    public Void visitMethod(MethodTree tree, Void none) {
+        ExecutableElement method = (ExecutableElement) here();
+        Set<Modifier> is = method.getModifiers();
+        boolean isOfHouse = method.getEnclosingElement().getSimpleName().contentEquals("CascadeHouse");
+        boolean isFace = isOfHouse && is.contains(Modifier.PUBLIC);
+        boolean isMade = method.getSimpleName().contentEquals("<init>");
+        calls.computeIfAbsent(method, key -> new LinkedHashSet<>());
+        is(isFace || !isOfHouse || is.contains(Modifier.PRIVATE), 1, tree, "private, or of the face");
+        is(isFace || !faceNames.contains(method.getSimpleName().toString()), 1, tree, "no name of the face");
+        is(isFace || isMade || method.getThrownTypes().isEmpty(), 6, tree, "the face alone tells what it throws");
+        is(tree.getParameters().size() <= MOST_PARAMETERS, 11, tree, "at most seven parameters");
+        long end = places.getEndPosition(unit, tree);
+        if (end >= 0) {
+            long lines = unit.getLineMap().getLineNumber(end) - unit.getLineMap().getLineNumber(places.getStartPosition(unit, tree));
+            is(lines < MOST_LINES, 11, tree, "a short method");
+        }
+        String name = method.getSimpleName().toString();
+        is(!List.of("equals", "hashCode", "toString").contains(name), 6, tree, "no " + name);
+        return super.visitMethod(tree, none);
+    }
+
+    @Override
+    public Void visitMethodInvocation(MethodInvocationTree tree, Void none) {
+        called((ExecutableElement) here(), tree);
+        return super.visitMethodInvocation(tree, none);
+    }
+
+    @Override
+    public Void visitNewClass(NewClassTree tree, Void none) {
+        is(tree.getClassBody() == null, 2, tree, "no class without a name");
+        called((ExecutableElement) here(), tree);
+        return super.visitNewClass(tree, none);
+    }
+
+    /** Keeps which own method calls which; a field's initialiser belongs to the constructors of its class. */
+    private void called(ExecutableElement callee, Tree tree) {
+        Element owner = callee.getEnclosingElement();
+        if (!owner.toString().startsWith("CascadeHouse")) {
+            String name = owner.getSimpleName() + "." + callee.getSimpleName();
+            is(LIBRARY.contains(name), 4, tree, name);
+            return;
+        }
+        for (Element caller : callers()) {
+            calls.computeIfAbsent(caller, key -> new LinkedHashSet<>()).add(callee);
         }
     }
 
-    private static void words(List<String> lines) {
-        for (int k = 0; k < lines.size(); k++) {
-            String code = lines.get(k).trim();
-            String where = "line " + (k + 1);
-            if (!code.startsWith("*") && !code.startsWith("/**") && !code.startsWith("//")) {
-                for (String word : NOT_USED) {
-                    Check.due(where + " has " + word, lines.get(k).contains(word), false);
+    private List<Element> callers() {
+        List<Element> found = new ArrayList<>();
+        var path = getCurrentPath();
+        while (!(path.getLeaf() instanceof MethodTree) && !(path.getLeaf() instanceof ClassTree)) {
+            path = path.getParentPath();
+        }
+        Element around = trees.getElement(path);
+        if (around instanceof ExecutableElement) {
+            found.add(around);
+        } else {
+            for (Element member : around.getEnclosedElements()) {
+                if (member.getSimpleName().contentEquals("<init>")) {
+                    found.add(member);
                 }
-                Check.due(where + " is a package line", code.startsWith("package"), false);
-                Check.due(where + " brings in what may be", !code.startsWith("import") || List.of(LIBRARY).contains(code), true);
             }
+        }
+        return found;
+    }
+
+    // ---- what a call stands on
+
+    private void depths() {
+        for (Element method : calls.keySet()) {
+            List<Element> deepest = longest(method, new ArrayList<>());
+            Check.due("rule 11, calls that are no recursion: " + deepest, deepest.size() <= DEEPEST, true);
         }
     }
 
-    /** A method begins with a line that ends in ") {" or in what it throws, and ends with a brace as far to the right. */
-    private static void lengths(List<String> lines) {
-        for (int k = 0; k < lines.size(); k++) {
-            String line = lines.get(k);
-            String code = line.trim();
-            boolean isMethod = code.matches("(public |private |static |final )*[A-Za-z\\[\\]<>]+ [a-zA-Z]+\\(.*\\).*\\{");
-            if (isMethod && !code.startsWith("else") && !code.startsWith("return")) {
-                String end = line.substring(0, line.indexOf(code)) + "}";
-                int last = k;
-                while (last < lines.size() && !lines.get(last).equals(end)) {
-                    last++;
-                }
-                Check.due("the method in line " + (k + 1) + " is short", last - k < MOST_LINES, true);
+    /** The longest chain of calls from a method on; a private static method may call itself, others may not. */
+    private List<Element> longest(Element method, List<Element> open) {
+        List<Element> best = new ArrayList<>();
+        Check.due("rule 8, ends: " + open + " " + method, open.contains(method), false);
+        if (!open.contains(method)) {
+            open.add(method);
+            for (Element callee : calls.getOrDefault(method, Set.of())) {
+                boolean isSelf = callee.equals(method);
+                boolean isPrivateStatic = callee.getModifiers().containsAll(Set.of(Modifier.PRIVATE, Modifier.STATIC));
+                Check.due("rule 8, calls itself: " + method, !isSelf || isPrivateStatic, true);
+                List<Element> chain = isSelf ? best : longest(callee, open);
+                best = chain.size() > best.size() ? chain : best;
             }
+            open.remove(open.size() - 1);
         }
+        best = new ArrayList<>(best);
+        best.add(0, method);
+        return best;
+    }
+
+    // ---- statements and expressions
+
+    @Override
+    public Void visitThrow(ThrowTree tree, Void none) {
+        boolean isWritten = tree.getExpression() instanceof NewClassTree made && made.getArguments().size() <= 1
+            && (made.getArguments().isEmpty() || made.getArguments().get(0) instanceof LiteralTree);
+        is(isWritten, 6, tree, "a new exception with a written text, if any");
+        for (Element caller : callers()) {
+            is(!caller.getSimpleName().contentEquals("<init>"), 6, tree, "no throw in a constructor");
+        }
+        return super.visitThrow(tree, none);
+    }
+
+    private void loop(Tree tree, ExpressionTree condition) {
+        is(condition != null && !condition.toString().contains("true"), 9, tree, "an end that its own lines tell");
+    }
+
+    @Override
+    public Void visitForLoop(ForLoopTree tree, Void none) {
+        loop(tree, tree.getCondition());
+        return super.visitForLoop(tree, none);
+    }
+
+    @Override
+    public Void visitWhileLoop(WhileLoopTree tree, Void none) {
+        loop(tree, tree.getCondition());
+        return super.visitWhileLoop(tree, none);
+    }
+
+    @Override
+    public Void visitDoWhileLoop(DoWhileLoopTree tree, Void none) {
+        loop(tree, tree.getCondition());
+        return super.visitDoWhileLoop(tree, none);
+    }
+
+    // ---- what the class does without, though some of it might be under conditions
+
+    private Void isNot(int rule, Tree tree, String what) {
+        is(false, rule, tree, what);
+        return null;
+    }
+
+    @Override
+    public Void visitEnhancedForLoop(EnhancedForLoopTree tree, Void none) {
+        return isNot(12, tree, "loops by index make no iterators");
+    }
+
+    @Override
+    public Void visitLambdaExpression(LambdaExpressionTree tree, Void none) {
+        return isNot(2, tree, "no lambda");
+    }
+
+    @Override
+    public Void visitMemberReference(MemberReferenceTree tree, Void none) {
+        return isNot(2, tree, "no method reference");
+    }
+
+    @Override
+    public Void visitTry(TryTree tree, Void none) {
+        return isNot(6, tree, "no try");
+    }
+
+    @Override
+    public Void visitCatch(CatchTree tree, Void none) {
+        return isNot(6, tree, "no catch");
+    }
+
+    @Override
+    public Void visitSynchronized(SynchronizedTree tree, Void none) {
+        return isNot(6, tree, "no synchronized");
+    }
+
+    @Override
+    public Void visitAssert(AssertTree tree, Void none) {
+        return isNot(6, tree, "no assert");
+    }
+
+    @Override
+    public Void visitInstanceOf(InstanceOfTree tree, Void none) {
+        return isNot(6, tree, "no instanceof");
+    }
+
+    @Override
+    public Void visitTypeCast(TypeCastTree tree, Void none) {
+        return isNot(6, tree, "no cast");
     }
 }

@@ -432,6 +432,19 @@ public final class LayoutTest {
         x.declare(3, MOST, 1);
         // 25 by 14: 3.6, 5.4 and 16.1; 1 is left
         widthsDue("the third one, too, though it would not be later", x, 4, 5, 1, 16, 8);
+        CascadeHouse y = house(ROW, 5);
+        y.window(4);
+        int[] growths = {0, 9, 9, 5, 7, 7};
+        for (int k = 1; k <= 5; k++) {
+            y.declare(k, GROW, growths[k]);
+        }
+        widthsDue("1 more for the first four", y, 1, 1, 1, 1, 0);
+        y.declare(4, MOST, 0);
+        // 4 by 30: 1.2, 1.2, 0.7 and 0.9; 2 are left
+        widthsDue("the fourth one is", y, 2, 2, 0, 0, 0);
+        y.declare(3, MOST, 0);
+        // 4 by 25: 1.4, 1.4 and 1.1; 1 is left
+        widthsDue("the third one, too, though neither is too wide once the other one is frozen", y, 2, 1, 0, 0, 1);
     }
 
     private static void frozenAltogether() {

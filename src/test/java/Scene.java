@@ -18,6 +18,8 @@ final class Scene {
     }
 
     private static final int MOST_CALLS = 512;
+    /** A call here may be made of some calls of the house. */
+    private static final int CALLS_MORE = 64;
     private static final int PROPERTIES = 14;
     private static final int MEASURES = 4;
 
@@ -69,7 +71,7 @@ final class Scene {
     List<String> answersBehind(Call last) {
         List<Named> questions = questions();
         List<String> told = new ArrayList<>();
-        int room = MOST_CALLS - calls.size() - 1;
+        int room = MOST_CALLS - calls.size() - CALLS_MORE;
         CascadeHouse x = null;
         for (int k = 0; k < questions.size(); k++) {
             if (k % room == 0) {

@@ -19,6 +19,8 @@ public final class TermsTest {
         twoWays();
         farBelow();
         siblings();
+        selectedWithoutABox();
+        inheritedWithoutABox();
         ties();
         lateRules();
         heavierRules();
@@ -243,6 +245,68 @@ public final class TermsTest {
         x.add(3, 5, 0);
         due("the parent is no sibling", x.fits(2, 7), false);
         due("nor has it one", x.fits(0, 7), false);
+    }
+
+    /** What has no box takes no part in the layout alone: selectors are of elements, and rules are told as ever. */
+    private static void selectedWithoutABox() {
+        CascadeHouse x = new CascadeHouse();
+        x.add(0, 1, 0);
+        x.add(0, 2, 0);
+        x.add(0, 3, 0);
+        x.add(2, 4, 0);
+        x.add(4, 5, 0);
+        int[] ways = {NEXT, NEXT, CHILD, BELOW};
+        int[] tags = {3, 3, 4, 5};
+        int[] parts = {2, 1, 2, 2};
+        for (int k = 0; k < ways.length; k++) {
+            plain(x, tags[k]);
+            x.part(k, ways[k], parts[k], 0, 0);
+            x.declare(k, COLOUR, 10 + k);
+        }
+        int hidden = plain(x, 2);
+        for (int display = 0; display <= NOTHING; display++) {
+            x.declare(hidden, DISPLAY, display);
+            String what = "DISPLAY " + display;
+            due(what + ": right behind it", x.fits(0, 3), true);
+            due(what + ": not right behind the one ahead of it", x.fits(1, 3), false);
+            due(what + ": its child", x.fits(2, 4), true);
+            due(what + ": one below it", x.fits(3, 5), true);
+            valueDue(what + ": right behind it", x, 3, COLOUR, 10, 0);
+            valueDue(what + ": its child", x, 4, COLOUR, 12, 2);
+            valueDue(what + ": one below it", x, 5, COLOUR, 13, 3);
+        }
+        due("it is there", x.elements(), 6);
+    }
+
+    private static void inheritedWithoutABox() {
+        CascadeHouse x = new CascadeHouse();
+        x.add(0, 1, 0);
+        x.add(1, 2, 0);
+        x.add(2, 3, 0);
+        plain(x, 0);
+        plain(x, 1);
+        plain(x, 3);
+        x.declare(0, COLOUR, 5);
+        x.declare(0, WIDTH, 50);
+        x.declare(0, VARIABLES, 50);
+        x.declare(1, COLOUR, 6);
+        x.declare(1, WIDTH, 60);
+        x.declare(1, VARIABLES, 60);
+        x.say(2, WIDTH, INHERIT);
+        x.refer(2, HEIGHT, 0, NONE);
+        for (int display : new int[] {0, NOTHING}) {
+            x.declare(1, DISPLAY, display);
+            valueDue("COLOUR, DISPLAY " + display, x, 3, COLOUR, 6, 1);
+            valueDue("the variable, DISPLAY " + display, x, 3, VARIABLES, 60, 1);
+            valueDue("HEIGHT by it, DISPLAY " + display, x, 3, HEIGHT, 60, 2);
+            valueDue("WIDTH, DISPLAY " + display, x, 3, WIDTH, AUTO, NONE);
+        }
+        x.rule(2, 0, 0, AUTHOR, 0, false);
+        x.say(3, WIDTH, INHERIT);
+        x.say(3, DISPLAY, INHERIT);
+        valueDue("WIDTH by two", x, 3, WIDTH, 60, 1);
+        valueDue("DISPLAY is not for the one below", x, 3, DISPLAY, 0, NONE);
+        valueDue("DISPLAY by INHERIT", x, 2, DISPLAY, NOTHING, 1);
     }
 
     // ---- which rule is stronger
