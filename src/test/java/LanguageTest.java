@@ -3,11 +3,9 @@ import com.sun.source.tree.CatchTree;
 import com.sun.source.tree.ClassTree;
 import com.sun.source.tree.CompilationUnitTree;
 import com.sun.source.tree.DoWhileLoopTree;
-import com.sun.source.tree.EnhancedForLoopTree;
 import com.sun.source.tree.ExpressionTree;
 import com.sun.source.tree.ForLoopTree;
 import com.sun.source.tree.ImportTree;
-import com.sun.source.tree.InstanceOfTree;
 import com.sun.source.tree.LambdaExpressionTree;
 import com.sun.source.tree.LiteralTree;
 import com.sun.source.tree.MemberReferenceTree;
@@ -18,7 +16,6 @@ import com.sun.source.tree.SynchronizedTree;
 import com.sun.source.tree.ThrowTree;
 import com.sun.source.tree.Tree;
 import com.sun.source.tree.TryTree;
-import com.sun.source.tree.TypeCastTree;
 import com.sun.source.tree.VariableTree;
 import com.sun.source.tree.WhileLoopTree;
 import com.sun.source.util.JavacTask;
@@ -37,16 +34,33 @@ import javax.lang.model.element.Element;
 import javax.lang.model.element.ExecutableElement;
 import javax.lang.model.element.Modifier;
 import javax.lang.model.element.TypeElement;
+import javax.lang.model.type.ArrayType;
+import javax.lang.model.type.DeclaredType;
+import javax.lang.model.type.TypeKind;
+import javax.lang.model.type.TypeMirror;
 import javax.tools.JavaCompiler;
 import javax.tools.StandardJavaFileManager;
 import javax.tools.ToolProvider;
 
 /** What ../shared/LANGUAGE.md says, as far as the compiler's trees of the class tell it; the numbers are its rules. */
 public final class LanguageTest extends TreePathScanner<Void, Void> {
-    private static final Set<String> LIBRARY = Set.of("ArrayList.size", "ArrayList.get", "ArrayList.add", "ArrayList.remove",
-        "ArrayList.clear", "ArrayList.isEmpty", "ArrayList.<init>", "Math.max", "Math.min", "Integer.bitCount",
-        "IllegalStateException.<init>", "IllegalArgumentException.<init>", "IndexOutOfBoundsException.<init>", "Object.<init>");
-    private static final Set<String> TYPES = Set.of("int", "boolean", "int[]", "boolean[]", "java.lang.String");
+    /** Rule 4: the classes of the library, each with what may be called of it. */
+    private static final Map<String, Set<String>> LIBRARY = Map.ofEntries(
+        Map.entry("String", Set.of("length", "charAt", "isEmpty", "equals", "indexOf", "substring", "toCharArray", "<init>")),
+        Map.entry("StringBuilder", Set.of("<init>", "append", "charAt", "setCharAt", "setLength", "deleteCharAt", "reverse", "length", "toString")),
+        Map.entry("ArrayList", Set.of("<init>", "add", "get", "set", "remove", "size", "isEmpty", "clear", "iterator")),
+        Map.entry("List", Set.of("add", "get", "set", "remove", "size", "isEmpty", "clear", "iterator", "of")),
+        Map.entry("Integer", Set.of("compare", "max", "min", "bitCount", "signum", "intValue", "numberOfTrailingZeros", "numberOfLeadingZeros", "highestOneBit", "lowestOneBit")),
+        Map.entry("Long", Set.of("compare", "max", "min", "bitCount", "signum", "numberOfTrailingZeros", "numberOfLeadingZeros")),
+        Map.entry("Math", Set.of("max", "min", "abs", "floorDiv", "floorMod")),
+        Map.entry("System", Set.of("arraycopy")),
+        Map.entry("Arrays", Set.of("copyOf", "copyOfRange", "fill")),
+        Map.entry("Iterator", Set.of("hasNext", "next")), Map.entry("Iterable", Set.of("iterator")), Map.entry("Comparable", Set.of("compareTo")),
+        Map.entry("Object", Set.of("<init>", "clone")), Map.entry("Enum", Set.of("<init>", "ordinal")), Map.entry("Record", Set.of("<init>")));
+    private static final Set<String> EXCEPTIONS = Set.of("IllegalStateException", "IllegalArgumentException", "IndexOutOfBoundsException",
+        "ArithmeticException", "UnsupportedOperationException", "NoSuchElementException", "RuntimeException");
+    private static final Set<String> IMPORTED = Set.of("java.util.ArrayList", "java.util.List", "java.util.Arrays", "java.util.Iterator",
+        "java.util.NoSuchElementException");
     private static final int MOST_CLASSES = 12, MOST_FIELDS = 20, MOST_PARAMETERS = 7, MOST_LINES = 60, DEEPEST = 8;
 
     private final Trees trees;
@@ -54,6 +68,8 @@ public final class LanguageTest extends TreePathScanner<Void, Void> {
     private final CompilationUnitTree unit;
     private final Set<String> faceNames = new LinkedHashSet<>();
     private final Map<Element, Set<Element>> calls = new LinkedHashMap<>();
+    private final Set<Element> throwing = new LinkedHashSet<>();
+    private final Set<Element> tries = new LinkedHashSet<>();
     private int classes = 0;
 
     private LanguageTest(Trees trees, CompilationUnitTree unit) {
@@ -100,7 +116,7 @@ public final class LanguageTest extends TreePathScanner<Void, Void> {
     @Override
     public Void visitImport(ImportTree tree, Void none) {
         String name = tree.getQualifiedIdentifier().toString();
-        is(!tree.isStatic() && (name.equals("java.util.ArrayList") || name.equals("java.util.List")), 4, tree, name);
+        is(!tree.isStatic() && IMPORTED.contains(name), 4, tree, name);
         return null;
     }
 
@@ -109,9 +125,9 @@ public final class LanguageTest extends TreePathScanner<Void, Void> {
         Set<Modifier> is = here().getModifiers();
         boolean isHouse = classes++ == 0;
         is(classes <= MOST_CLASSES, 11, tree, "at most twelve classes");
-        is(tree.getKind() == Tree.Kind.CLASS, 2, tree, "a class");
+        boolean isUnnamed = tree.getSimpleName().length() == 0;
         is(is.contains(Modifier.PUBLIC) == isHouse && !is.contains(Modifier.PROTECTED), 1, tree, "public, or inside");
-        is(isHouse ? is.contains(Modifier.FINAL) : is.contains(Modifier.STATIC), 1, tree, "final, or static");
+        is(isUnnamed || (isHouse ? is.contains(Modifier.FINAL) : is.contains(Modifier.STATIC)), 1, tree, "final, or static");
         int fields = 0;
         for (Tree member : tree.getMembers()) {
             is(member.getKind() != Tree.Kind.BLOCK, 5, member, "no initialiser block");
@@ -127,8 +143,7 @@ public final class LanguageTest extends TreePathScanner<Void, Void> {
     public Void visitVariable(VariableTree tree, Void none) {
         Element variable = here();
         Set<Modifier> is = variable.getModifiers();
-        String type = variable.asType().toString();
-        is(TYPES.contains(type) || type.startsWith("CascadeHouse.") || type.startsWith("java.util.ArrayList<CascadeHouse."), 3, tree, type);
+        is(isType(variable.asType()), 3, tree, variable.asType().toString());
         if (variable.getEnclosingElement() instanceof TypeElement owner) {
             boolean isConstant = is.contains(Modifier.STATIC) && is.contains(Modifier.FINAL);
             is(isConstant || !is.contains(Modifier.STATIC), 5, tree, "static fields are final");
@@ -136,6 +151,24 @@ public final class LanguageTest extends TreePathScanner<Void, Void> {
             is(!isHouse || is.contains(Modifier.PRIVATE) || isConstant && is.contains(Modifier.PUBLIC), 1, tree, "private, or of the face");
         }
         return super.visitVariable(tree, none);
+    }
+
+    /** Numbers, own classes, and what the library has; arrays of two dimensions of numbers alone. */
+    private static boolean isType(TypeMirror type) {
+        if (type instanceof ArrayType row) {
+            TypeMirror one = row.getComponentType();
+            return one instanceof ArrayType inner ? inner.getComponentType().getKind().isPrimitive() : isType(one);
+        }
+        if (type instanceof DeclaredType declared) {
+            String name = declared.asElement().getSimpleName().toString();
+            boolean isOwn = declared.asElement().toString().startsWith("CascadeHouse");
+            boolean isFit = isOwn || LIBRARY.containsKey(name) || EXCEPTIONS.contains(name);
+            for (TypeMirror part : declared.getTypeArguments()) {
+                isFit &= isType(part);
+            }
+            return isFit;
+        }
+        return type.getKind().isPrimitive() || type.getKind() == TypeKind.TYPEVAR;
     }
 
     // ---- methods
@@ -170,7 +203,6 @@ public final class LanguageTest extends TreePathScanner<Void, Void> {
 
     @Override
     public Void visitNewClass(NewClassTree tree, Void none) {
-        is(tree.getClassBody() == null, 2, tree, "no class without a name");
         called((ExecutableElement) here(), tree);
         return super.visitNewClass(tree, none);
     }
@@ -179,8 +211,10 @@ public final class LanguageTest extends TreePathScanner<Void, Void> {
     private void called(ExecutableElement callee, Tree tree) {
         Element owner = callee.getEnclosingElement();
         if (!owner.toString().startsWith("CascadeHouse")) {
-            String name = owner.getSimpleName() + "." + callee.getSimpleName();
-            is(LIBRARY.contains(name), 4, tree, name);
+            String name = owner.getSimpleName().toString();
+            String called = callee.getSimpleName().toString();
+            boolean isException = EXCEPTIONS.contains(name) && called.equals("<init>");
+            is(isException || LIBRARY.getOrDefault(name, Set.of()).contains(called), 4, tree, name + "." + called);
             return;
         }
         for (Element caller : callers()) {
@@ -213,24 +247,23 @@ public final class LanguageTest extends TreePathScanner<Void, Void> {
         for (Element method : calls.keySet()) {
             List<Element> deepest = longest(method, new ArrayList<>());
             Check.due("rule 11, calls that are no recursion: " + deepest, deepest.size() <= DEEPEST, true);
+            boolean isSelf = calls.get(method).contains(method);
+            TypeElement owner = (TypeElement) method.getEnclosingElement();
+            boolean isOfKind = owner.getKind().isInterface() || !owner.getInterfaces().isEmpty() || !owner.getSuperclass().toString().equals("java.lang.Object");
+            Check.due("rule 8, calls itself, so private or of a kind: " + method, !isSelf || method.getModifiers().contains(Modifier.PRIVATE) || isOfKind, true);
+            Check.due("rule 6, no try where a throw stands: " + method, tries.contains(method) && throwing.contains(method), false);
         }
     }
 
-    /** The longest chain of calls from a method on; a private static method may call itself, others may not. */
+    /** The longest chain of calls from a method on that comes to none twice: recursion is counted by its levels elsewhere. */
     private List<Element> longest(Element method, List<Element> open) {
         List<Element> best = new ArrayList<>();
-        Check.due("rule 8, ends: " + open + " " + method, open.contains(method), false);
-        if (!open.contains(method)) {
-            open.add(method);
-            for (Element callee : calls.getOrDefault(method, Set.of())) {
-                boolean isSelf = callee.equals(method);
-                boolean isPrivateStatic = callee.getModifiers().containsAll(Set.of(Modifier.PRIVATE, Modifier.STATIC));
-                Check.due("rule 8, calls itself: " + method, !isSelf || isPrivateStatic, true);
-                List<Element> chain = isSelf ? best : longest(callee, open);
-                best = chain.size() > best.size() ? chain : best;
-            }
-            open.remove(open.size() - 1);
+        open.add(method);
+        for (Element callee : calls.getOrDefault(method, Set.of())) {
+            List<Element> chain = open.contains(callee) ? best : longest(callee, open);
+            best = chain.size() > best.size() ? chain : best;
         }
+        open.remove(open.size() - 1);
         best = new ArrayList<>(best);
         best.add(0, method);
         return best;
@@ -244,6 +277,7 @@ public final class LanguageTest extends TreePathScanner<Void, Void> {
             && (made.getArguments().isEmpty() || made.getArguments().get(0) instanceof LiteralTree);
         is(isWritten, 6, tree, "a new exception with a written text, if any");
         for (Element caller : callers()) {
+            throwing.add(caller);
             is(!caller.getSimpleName().contentEquals("<init>"), 6, tree, "no throw in a constructor");
         }
         return super.visitThrow(tree, none);
@@ -271,16 +305,27 @@ public final class LanguageTest extends TreePathScanner<Void, Void> {
         return super.visitDoWhileLoop(tree, none);
     }
 
-    // ---- what the class does without, though some of it might be under conditions
+    @Override
+    public Void visitTry(TryTree tree, Void none) {
+        tries.addAll(callers());
+        is(tree.getFinallyBlock() == null && tree.getResources().isEmpty(), 6, tree, "no finally, no resources");
+        return super.visitTry(tree, none);
+    }
+
+    /** By its own exceptions alone: what the machine throws is never caught, so RuntimeException is none of them. */
+    @Override
+    public Void visitCatch(CatchTree tree, Void none) {
+        String type = tree.getParameter().getType().toString();
+        Set<String> ofTheMachine = Set.of("RuntimeException", "IndexOutOfBoundsException", "ArithmeticException");
+        is(EXCEPTIONS.contains(type) && !ofTheMachine.contains(type), 6, tree, "catch of " + type);
+        return super.visitCatch(tree, none);
+    }
+
+    // ---- what no program has
 
     private Void isNot(int rule, Tree tree, String what) {
         is(false, rule, tree, what);
         return null;
-    }
-
-    @Override
-    public Void visitEnhancedForLoop(EnhancedForLoopTree tree, Void none) {
-        return isNot(12, tree, "loops by index make no iterators");
     }
 
     @Override
@@ -294,16 +339,6 @@ public final class LanguageTest extends TreePathScanner<Void, Void> {
     }
 
     @Override
-    public Void visitTry(TryTree tree, Void none) {
-        return isNot(6, tree, "no try");
-    }
-
-    @Override
-    public Void visitCatch(CatchTree tree, Void none) {
-        return isNot(6, tree, "no catch");
-    }
-
-    @Override
     public Void visitSynchronized(SynchronizedTree tree, Void none) {
         return isNot(6, tree, "no synchronized");
     }
@@ -311,15 +346,5 @@ public final class LanguageTest extends TreePathScanner<Void, Void> {
     @Override
     public Void visitAssert(AssertTree tree, Void none) {
         return isNot(6, tree, "no assert");
-    }
-
-    @Override
-    public Void visitInstanceOf(InstanceOfTree tree, Void none) {
-        return isNot(6, tree, "no instanceof");
-    }
-
-    @Override
-    public Void visitTypeCast(TypeCastTree tree, Void none) {
-        return isNot(6, tree, "no cast");
     }
 }
